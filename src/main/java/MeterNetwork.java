@@ -6,12 +6,10 @@ public final class MeterNetwork {
     public static final int NONE = -1;
 
     private static final int NODES = 10;
-    private static final int METERS = 9;
     private static final int COLLECTOR = 0;
     private static final int MAX_DEPTH = 9;
     private static final int MAX_READINGS = 60;
     private static final int STORE_LIMIT = 6;
-    private static final int CELLS = MAX_READINGS + METERS * STORE_LIMIT;
     private static final int MAX_VALUE = 999;
     private static final int MAX_JUMP = 100;
     private static final int MAX_FAULTS = 9;
@@ -24,7 +22,8 @@ public final class MeterNetwork {
     private static final int MAX_TEXT = 80;
     private static final int FIRST_SIGN = 32;
     private static final int LAST_SIGN = 126;
-    private static final int NO_SIGN = 0;
+    private static final char NO_SIGN = 0;
+    private static final int TIME = 3;
     private static final int STAMP = 4;
 
     private final State state = new State();
@@ -126,10 +125,6 @@ public final class MeterNetwork {
             throw new IllegalStateException("the text is not valid");
         }
         history.save(state);
-        return executeText();
-    }
-
-    private int executeText() {
         text.position = 0;
         int executed = 0;
         while (executed < MAX_TEXT && text.readCommand() && executeCommand()) {
@@ -219,7 +214,7 @@ public final class MeterNetwork {
 
     public int stored(int meter) throws IndexOutOfBoundsException {
         checkMeter(meter);
-        return state.readings.sizes[meter];
+        return state.readings.sizeOf(meter);
     }
 
     public int storedReading(int meter, int index, int part)
@@ -231,7 +226,7 @@ public final class MeterNetwork {
     }
 
     public int collected() {
-        return state.readings.sizes[COLLECTOR];
+        return state.readings.sizeOf(COLLECTOR);
     }
 
     public int collectedReading(int index, int part) throws IndexOutOfBoundsException, IllegalArgumentException {
@@ -262,7 +257,7 @@ public final class MeterNetwork {
             if (trial.readings.missingCount() == 0) {
                 return slots;
             }
-            trial.runSlot();
+            trial.runSlots(1);
         }
         return NONE;
     }
@@ -481,22 +476,19 @@ public final class MeterNetwork {
 
         // -- slots
 
+        /** Returns the number of readings that are collected in these slots. */
         private int runSlots(int slots) {
-            int before = readings.sizes[COLLECTOR];
+            int before = readings.sizeOf(COLLECTOR);
             for (int slot = 0; slot < slots; slot++) {
-                runSlot();
+                int node = Math.floorMod(now, NODES);
+                if (on[node]) {
+                    losePatience(node);
+                    beHeard(node);
+                    send(node);
+                }
+                now++;
             }
-            return readings.sizes[COLLECTOR] - before;
-        }
-
-        private void runSlot() {
-            int node = Math.floorMod(now, NODES);
-            if (on[node]) {
-                losePatience(node);
-                beHeard(node);
-                send(node);
-            }
-            now++;
+            return readings.sizeOf(COLLECTOR) - before;
         }
 
         private void losePatience(int n) {
@@ -515,23 +507,20 @@ public final class MeterNetwork {
 
         private void hear(int m, int n) {
             boolean leads = depths[n] != NONE && depths[n] < MAX_DEPTH;
-            if (parents[m] == n) {
-                if (leads) {
-                    follow(m, n);
-                } else {
-                    dropParent(m);
-                }
-            } else if (leads && parents[n] != m && (parents[m] == NONE || depths[m] > depths[n] + 1)) {
-                follow(m, n);
+            boolean isParent = parents[m] == n;
+            if (isParent && !leads) {
+                dropParent(m);
+            } else if (isParent || leads && isBetterParent(m, n)) {
+                parents[m] = n;
+                depths[m] = depths[n] + 1;
+                lastHeard[m] = now;
+                readings.shiftStamps(m, offsets[n] - offsets[m]);
+                offsets[m] = offsets[n];
             }
         }
 
-        private void follow(int m, int n) {
-            parents[m] = n;
-            depths[m] = depths[n] + 1;
-            lastHeard[m] = now;
-            readings.shiftStamps(m, offsets[n] - offsets[m]);
-            offsets[m] = offsets[n];
+        private boolean isBetterParent(int m, int n) {
+            return parents[n] != m && (parents[m] == NONE || depths[m] > depths[n] + 1);
         }
 
         private void dropParent(int m) {
@@ -542,7 +531,7 @@ public final class MeterNetwork {
 
         private void send(int n) {
             int p = parents[n];
-            if (!areConnected(n, p) || readings.sizes[n] == 0) {
+            if (!areConnected(n, p) || readings.sizeOf(n) == 0) {
                 return;
             }
             sent++;
@@ -577,15 +566,17 @@ public final class MeterNetwork {
      * A reading's stamp belongs to the list, as each copy of a reading has its own.
      */
     private static final class Readings {
+        private static final int ROW = MAX_READINGS;
+
         private final int[] meters = new int[MAX_READINGS];
         private final int[] numbers = new int[MAX_READINGS];
         private final int[] values = new int[MAX_READINGS];
         private final int[] times = new int[MAX_READINGS];
         private int taken;
         private final int[] sizes = new int[NODES];
-        /** The lists of all nodes, one behind the other; see firstCell. */
-        private final int[] ids = new int[CELLS];
-        private final int[] stamps = new int[CELLS];
+        /** The list of a node begins at the cell node * ROW. */
+        private final int[] ids = new int[NODES * ROW];
+        private final int[] stamps = new int[NODES * ROW];
 
         private Readings() {
         }
@@ -636,41 +627,29 @@ public final class MeterNetwork {
         }
 
         private int missingCount() {
-            return taken - sizes[COLLECTOR];
+            return taken - sizeOf(COLLECTOR);
         }
 
         // -- the lists
 
-        private static int capacityOf(int node) {
-            return node == COLLECTOR ? MAX_READINGS : STORE_LIMIT;
-        }
-
-        private static int firstCell(int node) {
-            return node == COLLECTOR ? 0 : MAX_READINGS + (node - 1) * STORE_LIMIT;
-        }
-
-        /** The cell of a place in a node's list, whether it is taken or free; NONE if there is no such place. */
-        private static int cellOf(int node, int index) {
-            boolean isThere = isNode(node) && index >= 0 && index < capacityOf(node);
-            return isThere ? firstCell(node) + index : NONE;
-        }
-
+        /** The length of a node's list, never above what its row has; 0 for what is no node. */
         private int sizeOf(int node) {
-            return isNode(node) ? sizes[node] : 0;
+            boolean isThere = node >= 0 && node < NODES;
+            return isThere ? Math.min(sizes[node], ROW) : 0;
         }
 
         private boolean isFull(int node) {
-            return sizeOf(node) >= capacityOf(node);
+            return sizeOf(node) >= (node == COLLECTOR ? MAX_READINGS : STORE_LIMIT);
         }
 
         private int idAt(int node, int index) {
-            int cell = cellOf(node, index);
-            return cell == NONE || index >= sizeOf(node) ? NONE : ids[cell];
+            boolean isThere = index >= 0 && index < sizeOf(node);
+            return isThere ? ids[node * ROW + index] : NONE;
         }
 
         private int stampAt(int node, int index) {
-            int cell = cellOf(node, index);
-            return cell == NONE || index >= sizeOf(node) ? NONE : stamps[cell];
+            boolean isThere = index >= 0 && index < sizeOf(node);
+            return isThere ? stamps[node * ROW + index] : NONE;
         }
 
         private int partOf(int node, int index, int part) {
@@ -685,7 +664,7 @@ public final class MeterNetwork {
                     return numbers[id];
                 case 2:
                     return values[id];
-                case 3:
+                case TIME:
                     return times[id];
                 default:
                     return stampAt(node, index);
@@ -694,7 +673,7 @@ public final class MeterNetwork {
 
         private boolean holds(int node, int id) {
             for (int index = 0; index < sizeOf(node); index++) {
-                if (idAt(node, index) == id) {
+                if (ids[node * ROW + index] == id) {
                     return true;
                 }
             }
@@ -711,40 +690,37 @@ public final class MeterNetwork {
 
         private int wrongStampCount() {
             int wrong = 0;
-            for (int index = 0; index < sizes[COLLECTOR]; index++) {
-                wrong += stampAt(COLLECTOR, index) == partOf(COLLECTOR, index, 3) ? 0 : 1;
+            for (int index = 0; index < sizeOf(COLLECTOR); index++) {
+                wrong += partOf(COLLECTOR, index, STAMP) == partOf(COLLECTOR, index, TIME) ? 0 : 1;
             }
             return wrong;
         }
 
         private void put(int node, int id, int stamp) {
-            int cell = cellOf(node, sizeOf(node));
-            if (cell != NONE) {
-                ids[cell] = id;
-                stamps[cell] = stamp;
-                sizes[node]++;
+            int index = sizeOf(node);
+            if (isNode(node) && index < ROW) {
+                ids[node * ROW + index] = id;
+                stamps[node * ROW + index] = stamp;
+                sizes[node] = index + 1;
             }
         }
 
         private void removeFirst(int node) {
-            for (int index = 1; index < sizeOf(node); index++) {
-                int cell = cellOf(node, index);
-                if (cell > 0) {
-                    ids[cell - 1] = ids[cell];
-                    stamps[cell - 1] = stamps[cell];
-                }
+            int size = sizeOf(node);
+            if (size == 0) {
+                return;
             }
-            if (sizeOf(node) > 0) {
-                sizes[node]--;
+            for (int index = 1; index < size; index++) {
+                int cell = node * ROW + index;
+                ids[cell - 1] = ids[cell];
+                stamps[cell - 1] = stamps[cell];
             }
+            sizes[node] = size - 1;
         }
 
         private void shiftStamps(int node, int amount) {
             for (int index = 0; index < sizeOf(node); index++) {
-                int cell = cellOf(node, index);
-                if (cell != NONE) {
-                    stamps[cell] += amount;
-                }
+                stamps[node * ROW + index] += amount;
             }
         }
     }

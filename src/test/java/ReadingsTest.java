@@ -7,6 +7,7 @@ public final class ReadingsTest {
         promise21Stored();
         promise22StoredReading();
         promise23And24Collected();
+        promise24SixtyCollected();
         promise25Copies();
         promise26Missing();
         promise27WrongStamps();
@@ -152,6 +153,37 @@ public final class ReadingsTest {
         Check.argument("part 5", x, () -> x.collectedReading(0, 5));
         Check.argument("part -1", x, () -> x.collectedReading(0, -1));
         Check.argument("part 5 behind the last", x, () -> x.collectedReading(3, 5));
+    }
+
+    /** Sixty come in while the stores around the collector's list are in use. */
+    private static void promise24SixtyCollected() {
+        MeterNetwork x = new MeterNetwork();
+        for (int meter = 1; meter <= 9; meter++) {
+            x.link(0, meter, true);
+        }
+        x.run(10);
+        StringBuilder due = new StringBuilder();
+        for (int value = 0; value < 60; value++) {
+            int meter = 1 + value % 9;
+            Check.same("number", x.take(meter, value), value / 9);
+            due.append(" ").append(meter).append('/').append(value / 9).append('/').append(value).append('/');
+            due.append(x.time()).append('/').append(x.time());
+            if (meter == 9) {
+                x.run(10);
+            }
+        }
+        x.setFaults(1, 1);
+        x.run(2);
+        x.setFaults(1, 0);
+        Check.same("kept for the lost acknowledgement", Check.stored(x, 1, 0), "1/6/54/70/70");
+        x.run(8);
+        Check.same("all sixty", x.collected(), 60);
+        StringBuilder got = new StringBuilder();
+        for (int index = 0; index < 60; index++) {
+            got.append(" ").append(Check.collected(x, index));
+        }
+        Check.same("in their order", got.toString(), due.toString());
+        Check.same("the least behind", x.collectedReading(60, 0), -1);
     }
 
     private static void promise25Copies() {

@@ -10,6 +10,7 @@ public final class SlotsTest {
         noMeterFollowsItsChild();
         clocksAndStamps();
         sendingToTheCollector();
+        stampsStayWithTheirReadings();
         sendingToAMeter();
         refusals();
         duplicatesAndFaults();
@@ -247,6 +248,25 @@ public final class SlotsTest {
         Check.same("two were sent", x.count(1), 2);
         x.run(100);
         Check.same("and no more", x.count(1), 2);
+    }
+
+    private static void stampsStayWithTheirReadings() {
+        MeterNetwork x = Check.chain(0, 1);
+        x.run(2);
+        x.take(1, 7);
+        x.run(1);
+        x.take(1, 8);
+        x.jump(1, 4);
+        x.take(1, 9);
+        x.run(9);
+        Check.same("the second is the first now", Check.stored(x, 1, 0), "1/1/8/3/-1");
+        Check.same("the third is the second", Check.stored(x, 1, 1), "1/2/9/3/3");
+        Check.same("there is no third", x.storedReading(1, 2, 4), -1);
+        x.run(20);
+        Check.same("the first", Check.collected(x, 0), "1/0/7/2/-2");
+        Check.same("the second", Check.collected(x, 1), "1/1/8/3/-1");
+        Check.same("the third", Check.collected(x, 2), "1/2/9/3/3");
+        Check.same("two are wrong", x.wrongStamps(), 2);
     }
 
     private static void sendingToAMeter() {

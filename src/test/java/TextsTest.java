@@ -18,6 +18,7 @@ public final class TextsTest {
         promise11ErrorPosition();
         promise11AllShortTexts();
         promise12RunText();
+        promise12Switches();
         promise12AsTheMethodsDo();
         promise12EndsBeforeARefusal();
         promise13Undo();
@@ -204,6 +205,19 @@ public final class TextsTest {
         Check.same("off and on", x.power(3, true), 10);
     }
 
+    private static void promise12Switches() {
+        MeterNetwork x = Check.chain(0, 9);
+        Check.write(x, "!9");
+        Check.same("a command", x.runText(), 1);
+        Check.same("off if it was on", x.isConnected(0, 9), false);
+        Check.same("a command again", x.runText(), 1);
+        Check.same("on if it was off", x.isConnected(0, 9), true);
+        Check.write(x, "!0;!9;!9");
+        Check.same("three commands", x.runText(), 3);
+        Check.same("0 is off", x.hops(0), -1);
+        Check.same("9 is on", x.power(0, true), 10);
+    }
+
     private static void promise12AsTheMethodsDo() {
         MeterNetwork x = new MeterNetwork();
         MeterNetwork y = new MeterNetwork();
@@ -353,6 +367,7 @@ public final class TextsTest {
         x.setFaults(1, 2);
         x.setPatience(1);
         x.run(1);
+        String before = allCounts(x);
         Check.same("taken", x.count(0), 7);
         Check.same("sent", x.count(1), 1);
         Check.same("refused", x.count(3), 1);
@@ -366,9 +381,20 @@ public final class TextsTest {
         Check.same("dropped", x.count(5), 2);
         x.undo();
         Check.same("undone", x.count(5), 0);
+        x.undo();
+        x.undo();
+        Check.same("all undone", allCounts(x), before);
         Check.argument("count(-1)", x, () -> x.count(-1));
         Check.argument("count(6)", x, () -> x.count(6));
         Check.argument("count(max)", x, () -> x.count(Integer.MAX_VALUE));
+    }
+
+    private static String allCounts(MeterNetwork x) {
+        StringBuilder s = new StringBuilder();
+        for (int what = 0; what <= 5; what++) {
+            s.append(x.count(what)).append(' ');
+        }
+        return s.toString();
     }
 
     private static void promise32Joined() {
