@@ -178,6 +178,8 @@ public final class ReadingsTest {
         Check.same("kept for the lost acknowledgement", Check.stored(x, 1, 0), "1/6/54/70/70");
         x.run(8);
         Check.same("all sixty", x.collected(), 60);
+        x.run(10);
+        Check.same("no store holds any", x.stored(1) + x.stored(9), 0);
         StringBuilder got = new StringBuilder();
         for (int index = 0; index < 60; index++) {
             got.append(" ").append(Check.collected(x, index));
@@ -206,6 +208,10 @@ public final class ReadingsTest {
         x.power(0, true);
         x.run(100);
         Check.same("collected: the list of the collector is no store", x.copies(3, 0), 0);
+        x.take(1, 3);
+        Check.same("taken", x.copies(1, 0), 1);
+        x.undo();
+        Check.same("not taken once it is undone", x.copies(1, 0), -1);
         Check.index("copies(0, 0)", x, () -> x.copies(0, 0));
         Check.index("copies(10, 0)", x, () -> x.copies(10, 0));
         Check.index("copies(-1, -1)", x, () -> x.copies(-1, -1));
