@@ -278,13 +278,13 @@ public final class TextsTest {
         String[] pictures = new String[8];
         MeterNetwork y = Check.chain(0, 1);
         for (int i = 0; i < 8; i++) {
-            pictures[i] = withoutSaved(y);
+            pictures[i] = Check.stateOf(y);
             change(y, i);
         }
         Check.same("six are saved at most", y.savedStates(), 6);
         for (int i = 7; i >= 2; i--) {
             Check.same("that remain", y.undo(), i - 2);
-            Check.same("undone to " + i, withoutSaved(y), pictures[i]);
+            Check.same("undone to " + i, Check.stateOf(y), pictures[i]);
         }
         Check.state("the oldest were discarded", y, () -> y.undo());
         Check.same("the patience is undone", patienceAfterUndo(), 2);
@@ -327,14 +327,6 @@ public final class TextsTest {
                 y.run(64);
                 break;
         }
-    }
-
-    private static String withoutSaved(MeterNetwork x) {
-        StringBuilder s = new StringBuilder(Check.picture(x));
-        // The third number from the end is the number of saved states.
-        int end = s.lastIndexOf(" ", s.lastIndexOf(" ") - 1);
-        int start = s.lastIndexOf(" ", end - 1);
-        return s.delete(start, end).toString();
     }
 
     private static int patienceAfterUndo() {
