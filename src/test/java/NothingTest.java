@@ -297,6 +297,12 @@ public final class NothingTest {
         x.jump(1, 50);
         x.take(1, 8);
         Check.same("one in a store does not count", x.wrongStamps(), 2);
+        MeterNetwork y = Check.chain(0, 1);
+        y.run(1);
+        y.take(1, 5);
+        y.jump(1, 3);
+        y.run(1);
+        Check.same("the only one, at the first place", y.wrongStamps(), 1);
     }
 
     /** Two networks have the same calls, and one of them is asked all queries between each two. */
