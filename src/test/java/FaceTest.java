@@ -48,6 +48,7 @@ public final class FaceTest {
     };
 
     public static void main(String[] args) {
+        Check.sentence("The public face, and LANGUAGE.md 1");
         Class<?> face = MeterNetwork.class;
         Check.same("public and final", Modifier.isPublic(face.getModifiers()) && Modifier.isFinal(face.getModifiers()),
                 true);

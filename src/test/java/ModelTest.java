@@ -39,6 +39,7 @@ public final class ModelTest {
     }
 
     public static void main(String[] args) throws ReflectiveOperationException {
+        Check.sentence("Promises 1 to 34, random runs");
         int wrong = 0;
         Map<String, Integer> seen = new TreeMap<>();
         for (int seed = 1; seed <= RUNS && wrong < 3; seed++) {

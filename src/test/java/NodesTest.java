@@ -1,23 +1,24 @@
 /** Promises 1 to 6 (a new object, links, power, jumps, faults, patience) and 14 to 20 (queries about nodes). */
 public final class NodesTest {
     public static void main(String[] args) {
-        promise1NewObject();
-        promise2Link();
-        promise3Power();
-        promise4Jump();
-        promise5SetFaults();
-        promise6SetPatience();
-        promise14IsConnected();
-        promise15Parent();
-        promise16Depth();
-        promise17Clock();
-        promise18Silence();
-        promise19Faults();
-        promise20Hops();
+        Check.test(NodesTest::promise1NewObject);
+        Check.test(NodesTest::promise2Link);
+        Check.test(NodesTest::promise3Power);
+        Check.test(NodesTest::promise4Jump);
+        Check.test(NodesTest::promise5SetFaults);
+        Check.test(NodesTest::promise6SetPatience);
+        Check.test(NodesTest::promise14IsConnected);
+        Check.test(NodesTest::promise15Parent);
+        Check.test(NodesTest::promise16Depth);
+        Check.test(NodesTest::promise17Clock);
+        Check.test(NodesTest::promise18Silence);
+        Check.test(NodesTest::promise19Faults);
+        Check.test(NodesTest::promise20Hops);
         Check.finish();
     }
 
     private static void promise1NewObject() {
+        Check.sentence("Promise 1: a new object");
         MeterNetwork x = new MeterNetwork();
         Check.same("NONE", MeterNetwork.NONE, -1);
         for (int node = 0; node <= 9; node++) {
@@ -52,6 +53,7 @@ public final class NodesTest {
     }
 
     private static void promise2Link() {
+        Check.sentence("Promise 2: link");
         MeterNetwork x = new MeterNetwork();
         Check.same("first link", x.link(0, 1, true), 1);
         Check.same("the same link, told the other way", x.link(1, 0, true), 1);
@@ -88,6 +90,7 @@ public final class NodesTest {
     }
 
     private static void promise3Power() {
+        Check.sentence("Promise 3: power");
         MeterNetwork x = Check.chain(0, 1);
         Check.same("off", x.power(0, false), 9);
         Check.same("off twice", x.power(0, false), 9);
@@ -105,6 +108,7 @@ public final class NodesTest {
     }
 
     private static void promise4Jump() {
+        Check.sentence("Promise 4: jump");
         MeterNetwork x = new MeterNetwork();
         Check.same("forward", x.jump(1, 100), 100);
         Check.same("forward again", x.jump(1, 100), 200);
@@ -128,6 +132,7 @@ public final class NodesTest {
     }
 
     private static void promise5SetFaults() {
+        Check.sentence("Promise 5: setFaults");
         MeterNetwork x = new MeterNetwork();
         Check.same("first", x.setFaults(1, 9), 0);
         Check.same("second", x.setFaults(1, 3), 9);
@@ -145,6 +150,7 @@ public final class NodesTest {
     }
 
     private static void promise6SetPatience() {
+        Check.sentence("Promise 6: setPatience");
         MeterNetwork x = new MeterNetwork();
         Check.same("most", x.setPatience(5), 2);
         Check.same("least", x.setPatience(1), 5);
@@ -171,6 +177,7 @@ public final class NodesTest {
     }
 
     private static void promise14IsConnected() {
+        Check.sentence("Promise 14: isConnected");
         MeterNetwork x = Check.chain(0, 1, 2);
         Check.same("linked", x.isConnected(1, 2), true);
         Check.same("linked, the other way", x.isConnected(2, 1), true);
@@ -187,6 +194,7 @@ public final class NodesTest {
     }
 
     private static void promise15Parent() {
+        Check.sentence("Promise 15: parent");
         MeterNetwork x = Check.chain(0, 1, 2);
         x.run(1);
         Check.same("after the slot of 0", x.parent(1), 0);
@@ -202,6 +210,7 @@ public final class NodesTest {
     }
 
     private static void promise16Depth() {
+        Check.sentence("Promise 16: depth");
         MeterNetwork x = Check.chain(0, 1, 2, 3, 4, 5, 6, 7, 8, 9);
         x.run(5);
         Check.same("reached", x.depth(5), 5);
@@ -215,6 +224,7 @@ public final class NodesTest {
     }
 
     private static void promise17Clock() {
+        Check.sentence("Promise 17: clock");
         MeterNetwork x = new MeterNetwork();
         x.jump(3, -50);
         x.run(20);
@@ -228,6 +238,7 @@ public final class NodesTest {
     }
 
     private static void promise18Silence() {
+        Check.sentence("Promise 18: silence");
         MeterNetwork x = Check.chain(0, 1);
         Check.same("no parent", x.silence(1), -1);
         x.run(1);
@@ -247,6 +258,7 @@ public final class NodesTest {
     }
 
     private static void promise19Faults() {
+        Check.sentence("Promise 19: faults");
         MeterNetwork x = Check.chain(0, 1);
         x.setFaults(1, 2);
         Check.same("set", x.faults(1), 2);
@@ -264,6 +276,7 @@ public final class NodesTest {
     }
 
     private static void promise20Hops() {
+        Check.sentence("Promise 20: hops");
         MeterNetwork x = Check.chain(0, 1, 2, 3, 4, 5, 6, 7, 8, 9);
         for (int node = 0; node <= 9; node++) {
             Check.same("hops " + node, x.hops(node), node);
@@ -279,6 +292,13 @@ public final class NodesTest {
         x.power(0, false);
         Check.same("the collector is off", x.hops(0), -1);
         Check.same("no way to a collector that is off", x.hops(1), -1);
+        for (int middle = 1; middle <= 9; middle++) {
+            for (int node = 1; node <= 9; node++) {
+                if (node != middle) {
+                    Check.same("hops " + node + " over " + middle, Check.chain(0, middle, node).hops(node), 2);
+                }
+            }
+        }
         Check.index("hops(-1)", x, () -> x.hops(-1));
         Check.index("hops(10)", x, () -> x.hops(10));
         Check.index("hops(33)", x, () -> x.hops(33));

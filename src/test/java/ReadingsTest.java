@@ -1,23 +1,24 @@
 /** Promises 7 and 8 (take, run), 21 to 27 (queries about readings), 28 and 29 (what would happen). */
 public final class ReadingsTest {
     public static void main(String[] args) {
-        promise7Take();
-        promise7SixtyReadings();
-        promise8Run();
-        promise21Stored();
-        promise22StoredReading();
-        promise23And24Collected();
-        promise24SixtyCollected();
-        promise25Copies();
-        promise26Missing();
-        promise27WrongStamps();
-        promise28SlotsToCollect();
-        promise28FourHundredSlots();
-        promise29IfRun();
+        Check.test(ReadingsTest::promise7Take);
+        Check.test(ReadingsTest::promise7SixtyReadings);
+        Check.test(ReadingsTest::promise8Run);
+        Check.test(ReadingsTest::promise21Stored);
+        Check.test(ReadingsTest::promise22StoredReading);
+        Check.test(ReadingsTest::promise23And24Collected);
+        Check.test(ReadingsTest::promise24SixtyCollected);
+        Check.test(ReadingsTest::promise25Copies);
+        Check.test(ReadingsTest::promise26Missing);
+        Check.test(ReadingsTest::promise27WrongStamps);
+        Check.test(ReadingsTest::promise28SlotsToCollect);
+        Check.test(ReadingsTest::promise28FourHundredSlots);
+        Check.test(ReadingsTest::promise29IfRun);
         Check.finish();
     }
 
     private static void promise7Take() {
+        Check.sentence("Promise 7: take");
         MeterNetwork x = new MeterNetwork();
         x.jump(2, 30);
         x.run(7);
@@ -46,6 +47,7 @@ public final class ReadingsTest {
     }
 
     private static void promise7SixtyReadings() {
+        Check.sentence("Promise 7: take, sixty readings");
         MeterNetwork x = Check.chain(0, 1);
         for (int meter = 1; meter <= 9; meter++) {
             for (int number = 0; number < 6; number++) {
@@ -74,6 +76,7 @@ public final class ReadingsTest {
     }
 
     private static void promise8Run() {
+        Check.sentence("Promise 8: run");
         MeterNetwork x = Check.chain(0, 1);
         x.take(1, 5);
         x.take(1, 6);
@@ -94,6 +97,7 @@ public final class ReadingsTest {
     }
 
     private static void promise21Stored() {
+        Check.sentence("Promise 21: stored");
         MeterNetwork x = Check.chain(0, 1, 2);
         x.take(2, 1);
         x.take(2, 2);
@@ -108,6 +112,7 @@ public final class ReadingsTest {
     }
 
     private static void promise22StoredReading() {
+        Check.sentence("Promise 22: storedReading");
         MeterNetwork x = new MeterNetwork();
         x.jump(9, -5);
         x.run(3);
@@ -134,6 +139,7 @@ public final class ReadingsTest {
     }
 
     private static void promise23And24Collected() {
+        Check.sentence("Promises 23 and 24: collected, collectedReading");
         MeterNetwork x = Check.chain(1, 0, 2);
         x.take(2, 7);
         x.take(1, 8);
@@ -157,6 +163,7 @@ public final class ReadingsTest {
 
     /** Sixty come in while the stores around the collector's list are in use. */
     private static void promise24SixtyCollected() {
+        Check.sentence("Promise 24: collectedReading, sixty readings");
         MeterNetwork x = new MeterNetwork();
         for (int meter = 1; meter <= 9; meter++) {
             x.link(0, meter, true);
@@ -189,6 +196,7 @@ public final class ReadingsTest {
     }
 
     private static void promise25Copies() {
+        Check.sentence("Promise 25: copies");
         MeterNetwork x = Check.chain(0, 1, 2, 3);
         x.setPatience(5);
         x.run(10);
@@ -218,6 +226,7 @@ public final class ReadingsTest {
     }
 
     private static void promise26Missing() {
+        Check.sentence("Promise 26: missing");
         MeterNetwork x = Check.chain(0, 1);
         x.take(1, 1);
         x.take(1, 2);
@@ -232,6 +241,7 @@ public final class ReadingsTest {
     }
 
     private static void promise27WrongStamps() {
+        Check.sentence("Promise 27: wrongStamps");
         MeterNetwork x = Check.chain(0, 1);
         x.run(10);
         x.jump(1, 5);
@@ -248,6 +258,7 @@ public final class ReadingsTest {
     }
 
     private static void promise28SlotsToCollect() {
+        Check.sentence("Promise 28: slotsToCollect");
         MeterNetwork x = Check.chain(0, 1, 2);
         Check.same("none is missing", x.slotsToCollect(), 0);
         x.take(2, 1);
@@ -266,6 +277,7 @@ public final class ReadingsTest {
 
     /** All readings go through the meter 1, one in each round, so that it takes more than 400 slots. */
     private static void promise28FourHundredSlots() {
+        Check.sentence("Promise 28: slotsToCollect, 400 slots");
         MeterNetwork x = fullChain();
         int due = 0;
         while (x.missing() > 0 && due < 1000) {
@@ -297,6 +309,7 @@ public final class ReadingsTest {
     }
 
     private static void promise29IfRun() {
+        Check.sentence("Promise 29: ifRun");
         MeterNetwork x = Check.chain(0, 1, 2);
         x.setFaults(2, 1);
         x.jump(2, 9);

@@ -13,9 +13,11 @@ public final class SendingLimitsTest {
         Check.test(SendingLimitsTest::nineLostAcknowledgements);
         Check.test(SendingLimitsTest::noFaultIsUsedByARefusal);
         Check.test(SendingLimitsTest::theFaultsOfTheParent);
+        Check.test(SendingLimitsTest::fromEachMeterToEach);
         Check.test(SendingLimitsTest::theFirstReadingAtTheEnd);
         Check.test(SendingLimitsTest::stampOfATakenReading);
         Check.test(SendingLimitsTest::stampsWhenAClockIsSet);
+        Check.test(SendingLimitsTest::stampsOfCollectedReadings);
         Check.test(SendingLimitsTest::stampsWhenTheClockIsRight);
         Check.test(SendingLimitsTest::stampsWhenAClockJumps);
         Check.test(SendingLimitsTest::stampsOnTheWay);
@@ -251,6 +253,26 @@ public final class SendingLimitsTest {
         Check.same("nothing is lost", x.count(4), 0);
     }
 
+    private static void fromEachMeterToEach() {
+        Check.sentence("Section 4 c: if p is a meter: added at the end of its store, and accepted: each p and n");
+        for (int p = 1; p <= 9; p++) {
+            for (int n = 1; n <= 9; n++) {
+                if (n != p) {
+                    MeterNetwork x = Check.chain(0, p, n);
+                    x.run(20);
+                    x.power(0, false);
+                    x.take(p, 5);
+                    x.take(n, 7);
+                    x.run(10);
+                    String what = n + " to " + p;
+                    Check.same(what + ": added", Check.stored(x, p, 1), n + "/0/7/20/20");
+                    Check.same(what + ": removed", x.stored(n), 0);
+                    Check.same(what + ": sent, and not refused", x.count(1) * 10 + x.count(3), 10);
+                }
+            }
+        }
+    }
+
     private static void theFirstReadingAtTheEnd() {
         Check.sentence("Section 4 c: n sends the first reading of its store; it is added at the end");
         MeterNetwork x = Check.chain(0, 1, 2);
@@ -318,6 +340,23 @@ public final class SendingLimitsTest {
         Check.same("what is collected does not change when 1 is set again", Check.collected(x, 0), "2/0/5/2/22");
         Check.same("what is in the store does, and what came to it with the wrong clock of 1", allStored(x, 1),
                 "1/0/6/3/13 1/1/7/3/43 1/2/8/3/-7 2/1/9/3/3");
+    }
+
+    private static void stampsOfCollectedReadings() {
+        Check.sentence("Section 4: a clock is set: the stamps of collected readings do not change, sixty of them");
+        MeterNetwork x = Check.chain(0, 1);
+        x.run(10);
+        for (int number = 0; number < 60; number++) {
+            x.take(1, number);
+            x.run(10);
+        }
+        x.jump(1, 30);
+        x.run(10);
+        Check.same("the clock is set", x.clock(1), x.time());
+        for (int index = 0; index < 60; index++) {
+            Check.same("stamp " + index, x.collectedReading(index, 4), 10 + 10 * index);
+        }
+        Check.same("none is wrong", x.wrongStamps(), 0);
     }
 
     private static String allStored(MeterNetwork x, int meter) {

@@ -1,25 +1,26 @@
 /** Section 4 of the document, step by step: what promise 8 (run) does in each slot. */
 public final class SlotsTest {
     public static void main(String[] args) {
-        slotOwners();
-        offNodesDoNothing();
-        parentsAreChosenByDepth();
-        parentsKeepThePathsFree();
-        parentsThatLead();
-        depthNineLeadsNobody();
-        noMeterFollowsItsChild();
-        clocksAndStamps();
-        sendingToTheCollector();
-        stampsStayWithTheirReadings();
-        sendingToAMeter();
-        refusals();
-        duplicatesAndFaults();
-        duplicateBeforeRefusal();
-        noSendingWithoutConnection();
+        Check.test(SlotsTest::slotOwners);
+        Check.test(SlotsTest::offNodesDoNothing);
+        Check.test(SlotsTest::parentsAreChosenByDepth);
+        Check.test(SlotsTest::parentsKeepThePathsFree);
+        Check.test(SlotsTest::parentsThatLead);
+        Check.test(SlotsTest::depthNineLeadsNobody);
+        Check.test(SlotsTest::noMeterFollowsItsChild);
+        Check.test(SlotsTest::clocksAndStamps);
+        Check.test(SlotsTest::sendingToTheCollector);
+        Check.test(SlotsTest::stampsStayWithTheirReadings);
+        Check.test(SlotsTest::sendingToAMeter);
+        Check.test(SlotsTest::refusals);
+        Check.test(SlotsTest::duplicatesAndFaults);
+        Check.test(SlotsTest::duplicateBeforeRefusal);
+        Check.test(SlotsTest::noSendingWithoutConnection);
         Check.finish();
     }
 
     private static void slotOwners() {
+        Check.sentence("Section 1: the slot s belongs to the node s modulo 10");
         MeterNetwork x = Check.chain(0, 1, 2, 3, 4, 5, 6, 7, 8, 9);
         for (int node = 0; node <= 8; node++) {
             Check.same("not before the slot of " + node, x.parent(node + 1), -1);
@@ -34,6 +35,7 @@ public final class SlotsTest {
     }
 
     private static void offNodesDoNothing() {
+        Check.sentence("Section 4: if the node n is on");
         MeterNetwork x = Check.chain(0, 1, 2);
         x.power(0, false);
         x.run(2);
@@ -62,6 +64,7 @@ public final class SlotsTest {
     }
 
     private static void parentsAreChosenByDepth() {
+        Check.sentence("Section 4 b: parents are chosen by depth");
         MeterNetwork x = Check.chain(0, 1, 2, 3);
         x.run(10);
         Check.same("3 over 2", x.parent(3), 2);
@@ -82,6 +85,7 @@ public final class SlotsTest {
 
     /** A meter does not follow its own child, nor a node that is not less deep by two. */
     private static void parentsKeepThePathsFree() {
+        Check.sentence("Section 4 a and b: parents that are lost");
         MeterNetwork x = Check.chain(0, 1, 2);
         x.run(10);
         x.link(0, 1, false);
@@ -122,6 +126,7 @@ public final class SlotsTest {
 
     /** A meter whose parent gets deeper or less deep goes with it. */
     private static void parentsThatLead() {
+        Check.sentence("Section 4 b: a meter goes with its parent");
         MeterNetwork x = Check.chain(0, 3, 2, 1);
         x.run(30);
         Check.same("depth of 1", x.depth(1), 3);
@@ -163,6 +168,7 @@ public final class SlotsTest {
     }
 
     private static void depthNineLeadsNobody() {
+        Check.sentence("Section 4 b: a depth less than 9");
         MeterNetwork x = slowChain();
         x.link(1, 9, true);
         x.run(2);
@@ -184,6 +190,7 @@ public final class SlotsTest {
     }
 
     private static void noMeterFollowsItsChild() {
+        Check.sentence("Section 4 b: m is not the parent of n");
         MeterNetwork x = slowChain();
         x.run(8);
         Check.same("7 leads, over 8", x.parent(7) == 8 && x.depth(7) == 3, true);
@@ -197,6 +204,7 @@ public final class SlotsTest {
     }
 
     private static void clocksAndStamps() {
+        Check.sentence("Section 4: the clock of m is set by n");
         MeterNetwork x = Check.chain(0, 1, 2);
         x.jump(1, 20);
         x.jump(2, -7);
@@ -237,6 +245,7 @@ public final class SlotsTest {
     }
 
     private static void sendingToTheCollector() {
+        Check.sentence("Section 4 c: p is the collector");
         MeterNetwork x = Check.chain(0, 1);
         x.take(1, 5);
         x.take(1, 6);
@@ -251,6 +260,7 @@ public final class SlotsTest {
     }
 
     private static void stampsStayWithTheirReadings() {
+        Check.sentence("Section 4 c: each reading keeps its stamp");
         MeterNetwork x = Check.chain(0, 1);
         x.run(2);
         x.take(1, 7);
@@ -270,6 +280,7 @@ public final class SlotsTest {
     }
 
     private static void sendingToAMeter() {
+        Check.sentence("Section 4 c: p is a meter");
         MeterNetwork x = Check.chain(0, 1, 2);
         x.take(1, 1);
         x.take(1, 2);
@@ -282,6 +293,7 @@ public final class SlotsTest {
     }
 
     private static void refusals() {
+        Check.sentence("Section 4 c: refused");
         MeterNetwork x = Check.chain(0, 1, 2);
         x.run(2);
         x.power(0, false);
@@ -302,6 +314,7 @@ public final class SlotsTest {
     }
 
     private static void duplicatesAndFaults() {
+        Check.sentence("Section 4 c: duplicates and lost acknowledgements");
         MeterNetwork x = Check.chain(0, 1);
         x.take(1, 5);
         x.setFaults(1, 2);
@@ -322,6 +335,7 @@ public final class SlotsTest {
 
     /** A full store accepts what it has; the copy keeps its stamp. */
     private static void duplicateBeforeRefusal() {
+        Check.sentence("Section 4 c: a duplicate is not refused");
         MeterNetwork x = Check.chain(0, 1, 2);
         x.run(2);
         x.power(0, false);
@@ -344,6 +358,7 @@ public final class SlotsTest {
     }
 
     private static void noSendingWithoutConnection() {
+        Check.sentence("Section 4 c: n is connected with p");
         MeterNetwork x = Check.chain(0, 1);
         x.run(1);
         x.take(1, 5);

@@ -13,24 +13,25 @@ public final class TextsTest {
             Pattern.compile(COMMAND.replace("\\N", "\\2") + "(;" + COMMAND.replace("\\N", "\\7") + ")*");
 
     public static void main(String[] args) {
-        promise9AppendText();
-        promise10ClearText();
-        promise11ErrorPosition();
-        promise11AllShortTexts();
-        promise12RunText();
-        promise12Switches();
-        promise12AsTheMethodsDo();
-        promise12EndsBeforeARefusal();
-        promise13Undo();
-        promise30Time();
-        promise31Count();
-        promise32Joined();
-        promise33SavedStates();
-        promise34TextLength();
+        Check.test(TextsTest::promise9AppendText);
+        Check.test(TextsTest::promise10ClearText);
+        Check.test(TextsTest::promise11ErrorPosition);
+        Check.test(TextsTest::promise11AllShortTexts);
+        Check.test(TextsTest::promise12RunText);
+        Check.test(TextsTest::promise12Switches);
+        Check.test(TextsTest::promise12AsTheMethodsDo);
+        Check.test(TextsTest::promise12EndsBeforeARefusal);
+        Check.test(TextsTest::promise13Undo);
+        Check.test(TextsTest::promise30Time);
+        Check.test(TextsTest::promise31Count);
+        Check.test(TextsTest::promise32Joined);
+        Check.test(TextsTest::promise33SavedStates);
+        Check.test(TextsTest::promise34TextLength);
         Check.finish();
     }
 
     private static void promise9AppendText() {
+        Check.sentence("Promise 9: appendText");
         MeterNetwork x = new MeterNetwork();
         Check.same("the least code", x.appendText(32), 1);
         Check.same("the greatest code", x.appendText(126), 2);
@@ -49,6 +50,7 @@ public final class TextsTest {
     }
 
     private static void promise10ClearText() {
+        Check.sentence("Promise 10: clearText");
         MeterNetwork x = new MeterNetwork();
         Check.same("empty", x.clearText(), 0);
         Check.write(x, "r1;r2");
@@ -61,6 +63,7 @@ public final class TextsTest {
     }
 
     private static void promise11ErrorPosition() {
+        Check.sentence("Promise 11: errorPosition");
         position("", 0);
         position("+12", -1);
         position("-09", -1);
@@ -132,6 +135,7 @@ public final class TextsTest {
 
     /** All texts of up to five of the SIGNS, compared with what a pattern says. */
     private static void promise11AllShortTexts() {
+        Check.sentence("Promise 11: errorPosition, all short texts");
         MeterNetwork x = new MeterNetwork();
         String complaint = compareTexts(x, "", 5);
         Check.same("all short texts", complaint, "");
@@ -178,6 +182,7 @@ public final class TextsTest {
     }
 
     private static void promise12RunText() {
+        Check.sentence("Promise 12: runText");
         MeterNetwork x = new MeterNetwork();
         Check.state("an empty text", x, () -> x.runText());
         Check.write(x, "r5;r");
@@ -206,6 +211,7 @@ public final class TextsTest {
     }
 
     private static void promise12Switches() {
+        Check.sentence("Promise 12: runText, switches");
         MeterNetwork x = Check.chain(0, 9);
         Check.write(x, "!9");
         Check.same("a command", x.runText(), 1);
@@ -219,6 +225,7 @@ public final class TextsTest {
     }
 
     private static void promise12AsTheMethodsDo() {
+        Check.sentence("Promise 12: runText, as the methods do");
         MeterNetwork x = new MeterNetwork();
         MeterNetwork y = new MeterNetwork();
         Check.write(x, "+01;+32;+21;!9;t3,17;r100;t2,5;-12;r30;t9,1;!9;r1");
@@ -252,6 +259,7 @@ public final class TextsTest {
     }
 
     private static void promise12EndsBeforeARefusal() {
+        Check.sentence("Promise 12: runText, ends before a refusal");
         MeterNetwork x = new MeterNetwork();
         Check.write(x, "t1,1;t1,2;t1,3;t1,4;t1,5;t1,6;t1,7;r9;t2,5");
         Check.same("six fit", x.runText(), 6);
@@ -269,6 +277,7 @@ public final class TextsTest {
     }
 
     private static void promise13Undo() {
+        Check.sentence("Promise 13: undo");
         MeterNetwork x = new MeterNetwork();
         Check.state("nothing is saved", x, () -> x.undo());
         x.link(0, 1, true);
@@ -337,6 +346,7 @@ public final class TextsTest {
     }
 
     private static void promise30Time() {
+        Check.sentence("Promise 30: time");
         MeterNetwork x = new MeterNetwork();
         x.run(1);
         Check.same("one", x.time(), 1);
@@ -350,6 +360,7 @@ public final class TextsTest {
     }
 
     private static void promise31Count() {
+        Check.sentence("Promise 31: count");
         MeterNetwork x = Check.chain(0, 1, 2);
         x.run(2);
         for (int value = 0; value < 6; value++) {
@@ -390,6 +401,7 @@ public final class TextsTest {
     }
 
     private static void promise32Joined() {
+        Check.sentence("Promise 32: joined");
         MeterNetwork x = Check.chain(0, 1, 2, 3, 4, 5, 6, 7, 8, 9);
         for (int meters = 0; meters <= 9; meters++) {
             Check.same("joined", x.joined(), meters / 9.0);
@@ -400,6 +412,7 @@ public final class TextsTest {
     }
 
     private static void promise33SavedStates() {
+        Check.sentence("Promise 33: savedStates");
         MeterNetwork x = new MeterNetwork();
         x.link(0, 1, true);
         Check.same("link", x.savedStates(), 1);
@@ -427,6 +440,7 @@ public final class TextsTest {
     }
 
     private static void promise34TextLength() {
+        Check.sentence("Promise 34: textLength");
         MeterNetwork x = new MeterNetwork();
         for (int length = 1; length <= 80; length++) {
             x.appendText(' ');
