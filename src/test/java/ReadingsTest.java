@@ -128,6 +128,14 @@ public final class ReadingsTest {
         Check.same("far behind", x.storedReading(9, Integer.MAX_VALUE, 4), -1);
         Check.same("behind a full store", x.storedReading(9, 6, 2), -1);
         Check.same("an empty store", x.storedReading(1, 0, 0), -1);
+        MeterNetwork y = Check.chain(0, 1, 2);
+        y.take(2, 7);
+        y.take(2, 8);
+        y.run(3);
+        Check.same("in another store: the meter that took it", y.storedReading(1, 0, 0), 2);
+        Check.same("its number there", y.storedReading(1, 0, 1), 0);
+        Check.same("its value there", y.storedReading(1, 0, 2), 7);
+        Check.same("the number of the one behind it", y.storedReading(2, 0, 1), 1);
         Check.index("storedReading(0)", x, () -> x.storedReading(0, 0, 0));
         Check.index("storedReading(10)", x, () -> x.storedReading(10, 0, 5));
         Check.index("index -1", x, () -> x.storedReading(9, -1, 0));

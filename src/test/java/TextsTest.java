@@ -47,6 +47,11 @@ public final class TextsTest {
         Check.argument("a wrong code at a full text", x, () -> x.appendText(127));
         x.clearText();
         Check.same("after clearing", x.appendText('r'), 1);
+        x.appendText('3');
+        x.appendText('7');
+        Check.same("at the end", x.errorPosition(), -1);
+        x.runText();
+        Check.same("in their order", x.time(), 37);
     }
 
     private static void promise10ClearText() {
@@ -125,6 +130,10 @@ public final class TextsTest {
         x.errorPosition();
         Check.same("nothing changes", x.savedStates() + x.time(), 0);
         Check.same("the text stays", x.textLength(), 2);
+        Check.write(x, "r1;x;r2");
+        Check.same("a wrong text", x.errorPosition(), 3);
+        Check.same("it stays too", x.textLength(), 7);
+        Check.same("and is wrong still", x.errorPosition(), 3);
     }
 
     private static void position(String text, int want) {
@@ -375,6 +384,8 @@ public final class TextsTest {
         Check.same("sent", x.count(1), 1);
         Check.same("refused", x.count(3), 1);
         x.run(30);
+        Check.same("taken, some of them collected", x.count(0), 7);
+        Check.same("collected", x.collected() > 0, true);
         Check.same("sent by both", x.count(1), 1 + 3 + 3);
         Check.same("duplicates", x.count(2), 2);
         Check.same("refused until there is room", x.count(3), 1 + 2);
