@@ -24,6 +24,10 @@ final class Check {
         }
     }
 
+    static void same(String what, long got, long want) {
+        tell(got == want, what + " answered " + got + ", due is " + want);
+    }
+
     static void same(String what, double got, double want) {
         tell(got == want, what + " answered " + got + ", due is " + want);
     }
